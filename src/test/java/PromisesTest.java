@@ -346,6 +346,39 @@ public final class PromisesTest {
         is("up to the cover's end", x.redirectHouse(1, 0, 0, 50), 2);
     }
 
+    private static void betweenTwoCovers() {
+        CHECK.at("9 redirectHouse between two covers");
+        LetterRouter x = row(3);
+        x.redirectHouse(0, 1, 0, 365);
+        x.redirectHouse(0, 2, 0, 50);
+        x.redirectHouse(0, 2, 60, 365);
+        fails("round from day 51 to day 59", REFUSED, () -> x.redirectHouse(1, 0, 0, 365));
+        is("reason", x.refusal(), 2);
+        x.redirectHouse(0, 2, 51, 59);
+        is("all covered", x.redirectHouse(1, 0, 0, 365), 4);
+        fails("the cover is needed", REFUSED, () -> x.dropRedirect(3));
+    }
+
+    private static void dropShiftsAll() {
+        CHECK.at("10 dropRedirect, what stays");
+        LetterRouter x = row(4);
+        x.redirectHouse(3, 2, 0, 365);
+        x.redirectPerson(0, 1, 5, 8);
+        x.redirectHouse(1, 0, 7, 20);
+        is("two remain", x.dropRedirect(0), 2);
+        int[] days = {4, 5, 6, 7, 8, 9, 20, 21};
+        int[] ends0 = {0, 1, 1, 0, 0, 0, 0, 0};
+        int[] ends1 = {1, 1, 1, 0, 0, 0, 0, 1};
+        for (int i = 0; i < days.length; i++) {
+            is("person 0 on day " + days[i], x.way(0, days[i], -1), ends0[i]);
+            is("person 1 on day " + days[i], x.way(1, days[i], -1), ends1[i]);
+            is("person 3 on day " + days[i], x.way(3, days[i], -1), 3);
+        }
+        is("number 1 is the redirect of house 1", x.dropRedirect(1), 1);
+        is("gone", x.way(1, 9, -1), 1);
+        is("the other stays", x.way(0, 5, -1), 1);
+    }
+
     private static void way() {
         CHECK.at("11 way");
         LetterRouter x = row(4);
@@ -472,6 +505,27 @@ public final class PromisesTest {
         is("gone, too", x.signer(0, 0), 0);
         fails("the newest", MISSING, () -> x.signer(1, 1));
         is("between", x.signer(1, 2), 1);
+        is("no other absence becomes one of person 0", x.signer(0, 10), 0);
+    }
+
+    private static void leaveInTurns() {
+        CHECK.at("15 leave, 20 of all persons together");
+        LetterRouter x = row(3);
+        for (int i = 0; i < 25; i++) {
+            x.leave(i % 3, 2 * i, 2 * i);
+        }
+        for (int i = 0; i < 25; i++) {
+            int day = 2 * i;
+            for (int p = 0; p < 3; p++) {
+                int person = p;
+                if (i >= 5 && i % 3 == p) {
+                    fails("person " + p + " on day " + day, MISSING, () -> x.signer(person, day));
+                } else {
+                    is("person " + p + " on day " + day, x.signer(p, day), p);
+                }
+                is("the day behind", x.signer(p, day + 1), p);
+            }
+        }
     }
 
     private static void signer() {
@@ -1180,6 +1234,33 @@ public final class PromisesTest {
         fails("no more", STATE, () -> x.undo());
     }
 
+    private static void undoOfEach() {
+        CHECK.at("33 undo of each change");
+        LetterRouter x = row(2);
+        x.redirectPerson(1, 1, 0, 9);
+        x.save();
+        Check.Call[] changes = {() -> x.addHouse(0, 9), () -> x.addPerson(0), () -> x.addWalk(0, 0, 0, 1, 9),
+            () -> x.redirectPerson(0, 1, 0, 9), () -> x.redirectHouse(0, 1, 0, 9), () -> x.dropRedirect(0),
+            () -> x.hold(0, 9), () -> x.allow(0, 1, true), () -> x.setLimit(0, 1), () -> x.leave(0, 0, 9),
+            () -> x.addLetter(0, 1, true), () -> {
+                type(x, "p0");
+                return x.arrive();
+            }, () -> x.pass(1)};
+        for (int i = 0; i < changes.length; i++) {
+            x.restore();
+            changes[i].run();
+            is("change " + i, x.undo(), 0);
+            is("letters", x.account(4), 0);
+            is("redirects", x.account(3), 1);
+            is("walks", x.account(2), 1);
+            is("way", x.way(0, 0, -1), 0);
+            is("signer", x.signer(0, 0), 0);
+            is("hold", x.hold(0, -1), -1);
+            is("limit", x.setLimit(0, 9), 9);
+            is("allowed", x.allow(0, 1, false), false);
+        }
+    }
+
     private static void save() {
         CHECK.at("34 save");
         LetterRouter x = row(2);
@@ -1245,6 +1326,96 @@ public final class PromisesTest {
         is("save forgets no change", x.undo(), 0);
     }
 
+    private static void restoreOfWhatWasMadeAnew() {
+        CHECK.at("35 restore in place of what was made anew");
+        LetterRouter x = new LetterRouter();
+        x.addHouse(1, 4);
+        x.addHouse(0, 4);
+        x.addHouse(0, 6);
+        x.addPerson(1);
+        x.addWalk(0, 0, 1, 3, 7);
+        x.save();
+        for (int i = 0; i < 5; i++) {
+            x.undo();
+        }
+        x.addHouse(2, 1);
+        x.addHouse(3, 9);
+        x.addHouse(3, 8);
+        x.addPerson(0);
+        x.addWalk(3, 1, 0, 9, 9);
+        x.restore();
+        fails("house 0", ARGUMENT, () -> x.addHouse(1, 4));
+        fails("house 1", ARGUMENT, () -> x.addHouse(0, 4));
+        is("home", x.way(0, 0, 0), 1);
+        is("not served", x.walkOf(0), -1);
+        is("served", x.walkOf(1), 0);
+        is("descending", x.stopIndex(1), 1);
+        is("also descending", x.stopIndex(2), 0);
+        x.addHouse(0, 2);
+        is("ahead of the first number", x.walkOf(3), -1);
+        x.addHouse(0, 8);
+        is("behind the last number", x.walkOf(4), -1);
+        x.addHouse(0, 5);
+        is("the other side", x.walkOf(5), -1);
+        is("what was anew is free", x.addHouse(3, 9), 6);
+    }
+
+    private static void restoreOfRulesMadeAnew() {
+        CHECK.at("35 restore in place of rules made anew");
+        LetterRouter x = row(3);
+        x.redirectHouse(0, 1, 3, 4);
+        x.leave(0, 3, 4);
+        x.save();
+        x.undo();
+        x.undo();
+        x.redirectPerson(1, 2, 6, 7);
+        x.leave(1, 6, 7);
+        x.restore();
+        int[] ends = {0, 0, 0, 1, 1, 0, 0, 0, 0};
+        for (int day = 0; day < ends.length; day++) {
+            int onDay = day;
+            is("person 0, day " + day, x.way(0, day, -1), ends[day]);
+            is("person 1, day " + day, x.way(1, day, -1), 1);
+            is("signer 1, day " + day, x.signer(1, day), 1);
+            if (ends[day] == 1) {
+                fails("nobody, day " + day, MISSING, () -> x.signer(0, onDay));
+            } else {
+                is("signer 0, day " + day, x.signer(0, day), 0);
+            }
+        }
+    }
+
+    private static void restoreOfLettersMadeAnew() {
+        CHECK.at("35 restore in place of letters made anew");
+        LetterRouter x = row(3);
+        x.pass(2);
+        x.leave(0, 2, 2);
+        x.setLimit(2, 5);
+        x.addLetter(0, 3, true);
+        x.addLetter(2, 6, false);
+        x.addLetter(1, 4, true);
+        x.pass(2);
+        x.save();
+        for (int i = 0; i < 6; i++) {
+            x.undo();
+        }
+        is("from day 2", x.today(), 2);
+        x.pass(1);
+        x.addLetter(1, 5, false);
+        x.addLetter(0, 5, true);
+        x.addLetter(2, 9, true);
+        x.leave(2, 0, 365);
+        x.pass(9);
+        x.restore();
+        numbers(x, 0, 0, 3, 1, 2, 1, 3, -1, 1, 0, 0, 1);
+        numbers(x, 1, 2, 6, 0, 2, 2, 2, 2, 0, -1, -1, -1);
+        numbers(x, 2, 1, 4, 1, 2, 1, 2, -1, 0, 1, 1, 0);
+        is("first delivery", x.delivered(0), 2);
+        is("second delivery", x.delivered(1), 0);
+        fails("third delivery", MISSING, () -> x.delivered(2));
+        is("mean", x.meanDays(), 0.5);
+    }
+
     public static void main(String[] args) {
         newObject();
         addHouse();
@@ -1259,12 +1430,15 @@ public final class PromisesTest {
         redirectHouseOnDaysThatAreOver();
         coverThatEnds();
         dropRedirect();
+        betweenTwoCovers();
         dropRedirectOnLaterDay();
+        dropShiftsAll();
         way();
         hold();
         allow();
         setLimit();
         leave();
+        leaveInTurns();
         signer();
         residents();
         addLetter();
@@ -1292,8 +1466,12 @@ public final class PromisesTest {
         undo();
         undoOfWhatChangesNothing();
         undoManyTimes();
+        undoOfEach();
         save();
         restore();
+        restoreOfWhatWasMadeAnew();
+        restoreOfRulesMadeAnew();
+        restoreOfLettersMadeAnew();
         CHECK.finish("PromisesTest");
     }
 }
