@@ -1416,6 +1416,53 @@ public final class PromisesTest {
         is("mean", x.meanDays(), 0.5);
     }
 
+    /** Every row of the office is full to its last place. */
+    private static void fullOffice() {
+        CHECK.at("full office");
+        LetterRouter x = new LetterRouter();
+        for (int i = 0; i < 16; i++) {
+            x.addHouse(i % 2, i + 1);
+        }
+        for (int i = 0; i < 20; i++) {
+            x.addPerson(i % 16);
+            x.leave(i, 0, 0);
+        }
+        for (int i = 0; i < 10; i++) {
+            x.addWalk(0, 1, i % 2, 1, 15);
+        }
+        for (int i = 0; i < 12; i++) {
+            x.redirectHouse(i + 1, i, 0, 9);
+        }
+        for (int i = 0; i < 30; i++) {
+            x.addLetter(i % 20, 1 + i % 9, true);
+        }
+        x.allow(12, 0, true);
+        x.allow(12, 16, true);
+        is("not served", x.account(9), 8);
+        is("none for the last", x.walkOf(15), -1);
+        is("end of 13 houses", x.way(12, 9, -1), 0);
+        is("the thirteenth", x.way(12, 9, 12), 0);
+        fails("the fourteenth", MISSING, () -> x.way(12, 9, 13));
+        fails("no stop of the last walk", MISSING, () -> x.stop(9, 0));
+        is("the last stop", x.stop(0, 7), 14);
+        fails("behind it", MISSING, () -> x.stop(0, 8));
+        fails("all are absent", MISSING, () -> x.signer(12, 0));
+        is("the day after", x.signer(12, 1), 12);
+        is("no round", x.dropRedirect(11), 11);
+        is("full again", x.redirectHouse(12, 11, 0, 9), 11);
+        is("both who live in house 0", x.residents(0, 0, 9), 2);
+        is("nobody signs", x.pass(1), 0);
+        is("tries", x.account(10), 30 - x.returned(1));
+        is("all that are served", x.pass(1), 30 - x.returned(1));
+        is("all are done", x.account(5), 0);
+        is("numbers", x.letter(x.delivered(x.account(6) - 1), 10), x.account(6) - 1);
+        x.save();
+        is("undone", x.undo(), 7);
+        is("wait", x.account(5), 30 - x.returned(1));
+        x.restore();
+        is("restored", x.account(5), 0);
+    }
+
     public static void main(String[] args) {
         newObject();
         addHouse();
@@ -1472,6 +1519,7 @@ public final class PromisesTest {
         restoreOfWhatWasMadeAnew();
         restoreOfRulesMadeAnew();
         restoreOfLettersMadeAnew();
+        fullOffice();
         CHECK.finish("PromisesTest");
     }
 }
