@@ -25,6 +25,7 @@ final class DayEdges {
         all.undoThrows();
         all.save();
         all.restore();
+        all.restoreAnew();
     }
 
     private static Supplier<LetterRouter> onDay(int day) {
@@ -87,8 +88,8 @@ final class DayEdges {
     }
 
     private void passThrows() {
-        String argument =
-            "Throws `IllegalArgumentException` if days is out of range or today would be greater than 365";
+        String argument = "Throws `IllegalArgumentException` if days is out of range or today would be greater than "
+            + "365";
         e.test(28, argument, "1 and 60 are in range, 0 and 61 are not", () -> {
             e.is("1", LIVELY.get().pass(1), 1);
             e.is("60", LIVELY.get().pass(60), 2);
@@ -138,10 +139,10 @@ final class DayEdges {
     }
 
     private void account() {
-        String what = "`what`: 0 for the houses, 1 for the persons, 2 for the walks, 3 for the redirects that are kept, "
-            + "4 for the letters that were made, 5 for those that wait, 6 for those that were delivered, "
-            + "7 for those that were returned, 8 for the weight of those that wait, "
-            + "9 for the houses that no walk serves, 10 for the failed tries of all letters";
+        String what = "`what`: 0 for the houses, 1 for the persons, 2 for the walks, 3 for the redirects that are "
+            + "kept, 4 for the letters that were made, 5 for those that wait, 6 for those that were delivered, 7 "
+            + "for those that were returned, 8 for the weight of those that wait, 9 for the houses that no walk "
+            + "serves, 10 for the failed tries of all letters";
         e.test(30, "Returns an account.", "each of an empty office", () -> {
             for (int i = 0; i <= 10; i++) {
                 e.is("account " + i, new LetterRouter().account(i), 0);
@@ -265,8 +266,8 @@ final class DayEdges {
     }
 
     private void meanDays() {
-        String mean = "Returns the mean number of days from the day on which a letter came to that "
-            + "on which it was delivered.";
+        String mean = "Returns the mean number of days from the day on which a letter came to that on which it was "
+            + "delivered.";
         String divided = "Returns the sum divided by the number of letters that were delivered, both as doubles.";
         String none = "Throws `ArithmeticException` if none was delivered";
         e.test(32, mean, "0 on the day on which it came", () -> {
@@ -301,6 +302,15 @@ final class DayEdges {
             x.hold(2, 365);
             x.pass(3);
             e.is("2 by 1", x.meanDays(), 2.0);
+        });
+        e.test(32, divided, "of all 30 letters, half of them on the day they came, half a day later", () -> {
+            LetterRouter x = Scenes.row(2);
+            x.hold(1, 0);
+            for (int i = 0; i < 30; i++) {
+                x.addLetter(i % 2, 1, false);
+            }
+            x.pass(2);
+            e.is("15 by 30", x.meanDays(), 0.5);
         });
         e.test(32, none, "no letter, one that waits and one that was returned", () -> {
             Supplier<LetterRouter> returned = () -> {
@@ -525,5 +535,77 @@ final class DayEdges {
             x.save();
             e.is("restore", restored(x), "restored");
         });
+    }
+
+    /** No change is kept; three houses in street 4. */
+    private static LetterRouter base() {
+        LetterRouter x = Scenes.RESTORED.get();
+        x.addHouse(4, 97);
+        x.addHouse(4, 98);
+        x.save();
+        x.restore();
+        return x;
+    }
+
+    /** What is saved is undone, and another one is made under its number, before it is restored. */
+    private void comesBack(String what, Edges.Act made, Edges.Act other) {
+        e.same(what, () -> {
+            LetterRouter x = base();
+            made.on(x);
+            x.save();
+            for (int i = 0; i < 8; i++) {
+                Scenes.attempt(x, LetterRouter::undo);
+            }
+            other.on(x);
+            x.restore();
+            return x;
+        }, () -> {
+            LetterRouter x = base();
+            made.on(x);
+            x.save();
+            x.restore();
+            return x;
+        });
+    }
+
+    private void restoreAnew() {
+        String restores = "Restores what was saved; the snapshot is kept.";
+        e.test(35, restores, "a house, a person and a walk in place of others with their numbers", () -> {
+            comesBack("house", x -> x.addHouse(2, 2), x -> x.addHouse(3, 3));
+            comesBack("person", x -> x.addPerson(2), x -> x.addPerson(0));
+            comesBack("walk", x -> x.addWalk(4, 2, 0, 97, 99), x -> x.addWalk(3, 0, 1, 98, 98));
+        });
+        e.test(35, restores, "redirects and absences in place of others with their numbers", () -> {
+            comesBack("of a person", x -> x.redirectPerson(1, 0, 2, 3), x -> x.redirectPerson(2, 3, 5, 8));
+            comesBack("of a house", x -> x.redirectHouse(0, 3, 2, 3), x -> x.redirectPerson(0, 2, 2, 3));
+            comesBack("the last of all", x -> x.dropRedirect(4), x -> x.dropRedirect(0));
+            comesBack("absence", x -> x.leave(2, 0, 9), x -> x.leave(1, 11, 12));
+        });
+        e.test(35, restores, "a hold, a limit and an allowance in place of others", () -> {
+            comesBack("hold", x -> x.hold(2, 9), x -> x.hold(2, 19));
+            comesBack("limit", x -> x.setLimit(2, 3), x -> x.setLimit(2, 5));
+            comesBack("allowance", x -> x.allow(2, 0, true), x -> x.allow(2, 1, true));
+        });
+        e.test(35, restores, "a letter in place of one that came on another day", () ->
+            comesBack("letter", x -> x.addLetter(0, 9, true), x -> {
+                x.pass(1);
+                return x.addLetter(1, 3, false);
+            }));
+        e.test(35, restores, "deliveries in place of those of the same letters in another order", () ->
+            comesBack("deliveries", x -> deliver(x, 1, 2), x -> deliver(x, 2, 1)));
+        e.test(35, restores, "letters that were returned in place of those that were delivered", () -> {
+            Edges.Act returned = x -> {
+                x.setLimit(1, 0);
+                return deliver(x, 1, 2);
+            };
+            comesBack("returned", returned, x -> deliver(x, 1, 2));
+            comesBack("delivered", x -> deliver(x, 1, 2), returned);
+        });
+    }
+
+    private static Object deliver(LetterRouter x, int weight, int otherWeight) {
+        x.addLetter(1, weight, false);
+        x.addLetter(1, otherWeight, true);
+        return x.pass(1);
     }
 }

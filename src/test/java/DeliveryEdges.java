@@ -2,6 +2,10 @@ import java.util.function.Supplier;
 
 /** The boundaries that the terms name: letters, days that go by, order, notes, texts, reasons, changes, exceptions. */
 final class DeliveryEdges {
+    private static final String ORDER =
+        "The letters that are delivered on a day are delivered in the order of their walks, of the same walk in "
+        + "that of its stops, and at the same stop in that of their weights, the heaviest first, and of the same "
+        + "weight in that of their numbers.";
     private static final Supplier<LetterRouter> LIVELY = Scenes.LIVELY;
     private static final Supplier<LetterRouter> FULL = Scenes.FULL;
     private static final int TERMS = Edges.TERMS;
@@ -47,8 +51,8 @@ final class DeliveryEdges {
 
     private void letters() {
         String most = "At most 30 letters are ever made, numbered from 0.";
-        String letter = "A letter is to a person, has a weight from 1 to 9, and is registered or not; "
-            + "it is waiting, delivered or returned.";
+        String letter = "A letter is to a person, has a weight from 1 to 9, and is registered or not; it is waiting, "
+            + "delivered or returned.";
         String came = "It came on a day, which is today when it is made.";
         e.test(TERMS, most, "30 are made, numbered 0 to 29, a 31st is not, one by one or in a text", () -> {
             LetterRouter x = Scenes.row(1);
@@ -166,10 +170,10 @@ final class DeliveryEdges {
     }
 
     private void otherwise() {
-        String otherwise = "Otherwise it is returned for the reason 1 if no walk serves the end of its way; returned for the "
-            + "reason 2 if its person refuses letters of its weight, which are those above the limit of the person; "
-            + "delivered if it is not registered, or if it can be signed; and otherwise it has a failed try more, and is "
-            + "returned for the reason 3 at its third one.";
+        String otherwise = "Otherwise it is returned for the reason 1 if no walk serves the end of its way; returned "
+            + "for the reason 2 if its person refuses letters of its weight, which are those above the limit of "
+            + "the person; delivered if it is not registered, or if it can be signed; and otherwise it has a "
+            + "failed try more, and is returned for the reason 3 at its third one.";
         e.test(TERMS, otherwise, "reason 1: the walk ends just ahead of the house, or reaches it", () -> {
             for (int last : new int[] {49, 50}) {
                 LetterRouter x = new LetterRouter();
@@ -278,9 +282,10 @@ final class DeliveryEdges {
     }
 
     private void oldLetters() {
-        String old = "Then each letter that still waits is returned for the reason 4 if it came at least 30 days before.";
-        String likewise = "A letter on hold is returned for the reason 4 likewise; "
-            + "the days since it came are counted ahead of the increase of today.";
+        String old = "Then each letter that still waits is returned for the reason 4 if it came at least 30 days "
+            + "before.";
+        String likewise = "A letter on hold is returned for the reason 4 likewise; the days since it came are "
+            + "counted ahead of the increase of today.";
         e.test(TERMS, old, "29 days before it waits, 30 days before it is returned", () -> {
             LetterRouter x = Scenes.row(1);
             x.hold(0, 365);
@@ -351,11 +356,8 @@ final class DeliveryEdges {
     }
 
     private void order() {
-        String order = "The letters that are delivered on a day are delivered in the order of their walks, of the same walk "
-            + "in that of its stops, and at the same stop in that of their weights, the heaviest first, and of the same "
-            + "weight in that of their numbers.";
         String next = "Each gets the next number of all deliveries ever, from 0.";
-        e.test(TERMS, order, "walk 9 with its first stop behind walk 0 with its last stop", () -> {
+        e.test(TERMS, ORDER, "walk 9 with its first stop behind walk 0 with its last stop", () -> {
             LetterRouter x = new LetterRouter();
             x.addHouse(1, 1);
             for (int i = 1; i <= 15; i++) {
@@ -374,7 +376,7 @@ final class DeliveryEdges {
             e.is("first", x.delivered(0), 1);
             e.is("second", x.delivered(1), 0);
         });
-        e.test(TERMS, order, "at one stop: weights 9 to 1, the same ones by their numbers, up to 30", () -> {
+        e.test(TERMS, ORDER, "at one stop: weights 9 to 1, the same ones by their numbers, up to 30", () -> {
             LetterRouter x = Scenes.row(1);
             for (int i = 0; i < 30; i++) {
                 x.addLetter(0, 1 + i % 9, i % 2 == 0);
@@ -389,7 +391,7 @@ final class DeliveryEdges {
                 }
             }
         });
-        e.test(TERMS, order, "at one stop: letters of several persons, whatever their numbers", () -> {
+        e.test(TERMS, ORDER, "at one stop: letters of several persons, whatever their numbers", () -> {
             LetterRouter x = Scenes.row(2);
             x.addPerson(0);
             x.redirectPerson(1, 0, 0, 365);
@@ -422,10 +424,7 @@ final class DeliveryEdges {
     }
 
     private void orderOfStops() {
-        String order = "The letters that are delivered on a day are delivered in the order of their walks, of the same walk "
-            + "in that of its stops, and at the same stop in that of their weights, the heaviest first, and of the same "
-            + "weight in that of their numbers.";
-        e.test(TERMS, order, "16 stops of a walk, ascending and descending, the lightest at the first", () -> {
+        e.test(TERMS, ORDER, "16 stops of a walk, ascending and descending, the lightest at the first", () -> {
             for (int direction : new int[] {0, 1}) {
                 LetterRouter x = new LetterRouter();
                 for (int i = 0; i < 16; i++) {
@@ -443,7 +442,7 @@ final class DeliveryEdges {
                 }
             }
         });
-        e.test(TERMS, order, "where the way ends on that day, not where the person lives", () -> {
+        e.test(TERMS, ORDER, "where the way ends on that day, not where the person lives", () -> {
             LetterRouter x = Scenes.row(3);
             x.redirectHouse(0, 2, 0, 0);
             x.addLetter(0, 9, false);
@@ -455,10 +454,11 @@ final class DeliveryEdges {
     }
 
     private void notes() {
-        String note = "The note of a letter is a text: \"p\" and its person, \"w\" and its weight, and \"r\" if it is "
-            + "registered; then \"?\" if it waits, \">\" and the house if it was delivered, with \"/\" and the person who "
-            + "signed it if it is registered, or \"<\" and the reason if it was returned; then \"@\" and the day on which "
-            + "that was, unless it waits; and at last \"x\" and its failed tries, if there were any.";
+        String note = "The note of a letter is a text: \"p\" and its person, \"w\" and its weight, and \"r\" if it "
+            + "is registered; then \"?\" if it waits, \">\" and the house if it was delivered, with \"/\" and "
+            + "the person who signed it if it is registered, or \"<\" and the reason if it was returned; then "
+            + "\"@\" and the day on which that was, unless it waits; and at last \"x\" and its failed tries, if "
+            + "there were any.";
         String zeros = "Numbers are written without zeros in front.";
         String stand = "Failed tries stand in the notes of letters that do not wait, too.";
         e.test(TERMS, note, "one that waits: without and with a try", () -> {
@@ -560,8 +560,8 @@ final class DeliveryEdges {
     }
 
     private void texts() {
-        String text = "A text of arrivals consists of one or more letters with \",\" between them: \"p\" and a person, "
-            + "possibly \"w\" and a weight, which is 1 otherwise, and possibly \"r\" if it is registered.";
+        String text = "A text of arrivals consists of one or more letters with \",\" between them: \"p\" and a "
+            + "person, possibly \"w\" and a weight, which is 1 otherwise, and possibly \"r\" if it is registered.";
         e.test(TERMS, text, "one letter with and without each part", () -> {
             e.is("p0", read("p0"), "p0w1?");
             e.is("p0r", read("p0r"), "p0w1r?");
@@ -607,8 +607,8 @@ final class DeliveryEdges {
     }
 
     private void digits() {
-        String digits = "A person is 1 or 2 digits that do not begin with 0, except for 0 itself; "
-            + "a weight is one digit from 1 to 9.";
+        String digits = "A person is 1 or 2 digits that do not begin with 0, except for 0 itself; a weight is one "
+            + "digit from 1 to 9.";
         String behind = "A digit behind the person 0, and a weight of 0, are faults.";
         e.test(TERMS, digits, "persons 0, 1, 9, 10, 19, and three digits", () -> {
             for (int person : new int[] {0, 1, 9, 10, 19}) {
@@ -660,8 +660,8 @@ final class DeliveryEdges {
     }
 
     private void faults() {
-        String position = "The fault position of a text is the index of its first character that cannot continue such a "
-            + "text, or the length of the text if it ends too early.";
+        String position = "The fault position of a text is the index of its first character that cannot continue "
+            + "such a text, or the length of the text if it ends too early.";
         String refused = "The fault position behind a text that is refused is -1.";
         e.test(TERMS, position, "0: the first character, and nothing", () -> {
             e.is("first", read("x"), "fault at 0");
@@ -696,8 +696,9 @@ final class DeliveryEdges {
     }
 
     private void reasons() {
-        String reasons = "Something is refused for the first of these reasons that applies: 1, 12 redirects are kept, or 30 "
-            + "letters were made; 2, redirects would lead round; 3, there is no such person in a text.";
+        String reasons = "Something is refused for the first of these reasons that applies: 1, 12 redirects are "
+            + "kept, or 30 letters were made; 2, redirects would lead round; 3, there is no such person in a "
+            + "text.";
         String one = "The letters of a text are looked at one by one: of each, reason 1 ahead of reason 3.";
         e.test(TERMS, reasons, "11 redirects: reason 2, 12 redirects: reason 1", () -> {
             LetterRouter x = Scenes.row(1);
@@ -754,14 +755,15 @@ final class DeliveryEdges {
         return x.arrive();
     }
 
-    private static final Edges.Act[] CHANGES = {x -> x.addHouse(2, 2), x -> x.addPerson(2), x -> x.addWalk(4, 2, 0, 1, 99),
-        x -> x.redirectPerson(1, 0, 0, 365), x -> x.redirectHouse(3, 1, 0, 0), x -> x.dropRedirect(1), x -> x.hold(0, 365),
-        x -> x.allow(1, 0, true), x -> x.setLimit(0, 0), x -> x.leave(2, 0, 365), x -> x.addLetter(0, 9, true),
-        DeliveryEdges::arrive, x -> x.pass(60)};
+    /** One call of each kind that is a change, in the order of the sentence that names them. */
+    private static final Edges.Act[] CHANGES = {x -> x.addHouse(2, 2), x -> x.addPerson(2),
+        x -> x.addWalk(4, 2, 0, 1, 99), x -> x.redirectPerson(1, 0, 0, 365), x -> x.redirectHouse(3, 1, 0, 0),
+        x -> x.dropRedirect(1), x -> x.hold(0, 365), x -> x.allow(1, 0, true), x -> x.setLimit(0, 0),
+        x -> x.leave(2, 0, 365), x -> x.addLetter(0, 9, true), DeliveryEdges::arrive, x -> x.pass(60)};
 
     private void changes() {
-        String change = "A change is a successful call of addHouse, addPerson, addWalk, redirectPerson, redirectHouse, "
-            + "dropRedirect, hold, allow, setLimit, leave, addLetter, arrive or pass.";
+        String change = "A change is a successful call of addHouse, addPerson, addWalk, redirectPerson, "
+            + "redirectHouse, dropRedirect, hold, allow, setLimit, leave, addLetter, arrive or pass.";
         e.test(TERMS, change, "each of the 13 is one change, and undone all is as before", () -> {
             for (int i = 0; i < CHANGES.length; i++) {
                 Edges.Act act = CHANGES[i];
@@ -851,7 +853,8 @@ final class DeliveryEdges {
     }
 
     private void keptChanges() {
-        String latest = "The office before each of the latest 8 changes is kept and can be undone; restore forgets them.";
+        String latest = "The office before each of the latest 8 changes is kept and can be undone; restore forgets "
+            + "them.";
         e.test(TERMS, latest, "8 changes can all be undone, of 9 the first can not", () -> {
             for (int changes = 7; changes <= 9; changes++) {
                 LetterRouter x = new LetterRouter();
@@ -973,7 +976,8 @@ final class DeliveryEdges {
 
     private void exceptions() {
         String unchanged = "A call that throws an exception leaves the state unchanged, unless stated otherwise.";
-        String first = "If several conditions of a method are fulfilled, the one that is listed first determines the exception.";
+        String first = "If several conditions of a method are fulfilled, the one that is listed first determines the "
+            + "exception.";
         e.test(TERMS, unchanged, "in the full office: one of each call", () -> {
             e.rejects("addHouse", Edges.STATE, FULL, x -> x.addHouse(4, 1));
             e.rejects("addPerson", Edges.STATE, FULL, x -> x.addPerson(15));
@@ -988,7 +992,8 @@ final class DeliveryEdges {
             e.refuses("addLetter", 1, FULL, x -> x.addLetter(19, 9, true));
             e.rejects("pass", Edges.ARGUMENT, FULL, x -> x.pass(61));
         });
-        e.test(TERMS, unchanged, "a text that fails leaves all but the buffer, the fault position and the reason", () -> {
+        e.test(TERMS, unchanged,
+            "a text that fails leaves all but the buffer, the fault position and the reason", () -> {
             e.failsToArrive("p0,p0w", Edges.ARGUMENT, 6, "", Scenes.LIVELY_READ);
             e.failsToArrive("p0,p3,p4", Edges.REFUSED, -1, "3", Scenes.LIVELY_READ);
             e.failsToArrive("p0,p3,p4", Edges.REFUSED, -1, "1", Scenes.FULL_READ);

@@ -8,7 +8,7 @@ import java.util.TreeMap;
 import java.util.TreeSet;
 import java.util.function.Supplier;
 
-/** Tests that each name a sentence of the document and a boundary of it; the sentence must stand there word for word. */
+/** Tests that each name a sentence of the document, which must stand there word for word, and a boundary of it. */
 final class Edges {
     static final int TERMS = 0;
     static final Class<?> ARGUMENT = IllegalArgumentException.class;

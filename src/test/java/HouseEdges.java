@@ -162,14 +162,6 @@ final class HouseEdges {
 
     private void addPerson() {
         String makes = "Makes a person, without a limit of weight, a hold and absences, who has allowed nobody.";
-        Supplier<LetterRouter> fullOfPersons = () -> {
-            LetterRouter x = new LetterRouter();
-            x.addHouse(0, 1);
-            for (int i = 0; i < 20; i++) {
-                x.addPerson(0);
-            }
-            return x;
-        };
         e.test(3, makes, "no limit: the heaviest letter is delivered", () -> {
             LetterRouter x = Scenes.row(1);
             x.addLetter(0, 9, false);
@@ -177,14 +169,14 @@ final class HouseEdges {
             e.is("the limit", x.setLimit(0, 0), 9);
         });
         e.test(3, makes, "the first and the last one have no limit and no hold", () -> {
-            LetterRouter x = fullOfPersons.get();
+            LetterRouter x = Scenes.twentyAtHome();
             for (int person : new int[] {0, 19}) {
                 e.is("limit of " + person, x.setLimit(person, 3), 9);
                 e.is("hold of " + person, x.hold(person, 3), -1);
             }
         });
         e.test(3, makes, "the first and the last one are there from day 0 to day 365", () -> {
-            LetterRouter x = fullOfPersons.get();
+            LetterRouter x = Scenes.twentyAtHome();
             for (int person : new int[] {0, 19}) {
                 e.is(person + " on day 0", x.signer(person, 0), person);
                 e.is(person + " on day 365", x.signer(person, 365), person);
@@ -192,7 +184,7 @@ final class HouseEdges {
         });
         e.test(3, makes, "none of 20 has allowed any other", () -> {
             for (int i = 0; i < 20; i++) {
-                LetterRouter x = fullOfPersons.get();
+                LetterRouter x = Scenes.twentyAtHome();
                 for (int other = 0; other < 20; other++) {
                     if (other != i) {
                         e.is(i + " has allowed " + other, x.allow(i, other, false), false);
@@ -253,11 +245,7 @@ final class HouseEdges {
             e.rejects("the 21st", Edges.STATE, FULL, x -> x.addPerson(0));
         });
         e.test(3, state, "when one of the 20 is undone there is room for one", () -> {
-            LetterRouter x = new LetterRouter();
-            x.addHouse(0, 1);
-            for (int i = 0; i < 20; i++) {
-                x.addPerson(0);
-            }
+            LetterRouter x = Scenes.twentyAtHome();
             x.undo();
             e.is("the 20th again", x.addPerson(0), 19);
             e.fails("the 21st", Edges.STATE, x, y -> y.addPerson(0));

@@ -30,6 +30,7 @@ final class LetterEdges {
         all.note();
         all.delivered();
         all.daysLeft();
+        all.daysLeftBehindHolds();
         all.daysLeftThrows();
     }
 
@@ -52,7 +53,8 @@ final class LetterEdges {
     }
 
     private void addLetter() {
-        e.test(18, "Makes a letter.", "to the first and the last person, lightest and heaviest, registered or not", () -> {
+        e.test(18, "Makes a letter.",
+            "to the first and the last person, lightest and heaviest, registered or not", () -> {
             LetterRouter x = Scenes.row(16);
             x.addLetter(0, 1, false);
             x.addLetter(15, 9, true);
@@ -65,7 +67,8 @@ final class LetterEdges {
                 e.is("letter " + i, x.addLetter(0, 1, false), i);
             }
         });
-        e.test(18, "Returns the number of the letter.", "counted together with those of texts, and again when undone", () -> {
+        e.test(18, "Returns the number of the letter.",
+            "counted together with those of texts, and again when undone", () -> {
             LetterRouter x = Scenes.row(1);
             Scenes.type(x, "p0,p0");
             x.arrive();
@@ -78,8 +81,8 @@ final class LetterEdges {
     private void addLetterThrows() {
         String index = "Throws `IndexOutOfBoundsException` if there is no such person";
         String argument = "Throws `IllegalArgumentException` if the weight is out of range";
-        String refused =
-            "Throws `UnsupportedOperationException` if it is refused for reason 1; the reason is kept for refusal";
+        String refused = "Throws `UnsupportedOperationException` if it is refused for reason 1; the reason is kept "
+            + "for refusal";
         e.test(18, index, "nobody is there", () ->
             e.rejects("person 0", Edges.INDEX, EMPTY, x -> x.addLetter(0, 1, false)));
         e.test(18, index, "the first and the last one are there, those next to them are not", () -> {
@@ -145,7 +148,8 @@ final class LetterEdges {
                 e.is("fault of " + c, x.faultPosition(), 2);
             }
         });
-        e.test(19, any, "digits of other scripts and those that are like others by their low bits are no digits", () -> {
+        e.test(19, any,
+            "digits of other scripts and those that are like others by their low bits are no digits", () -> {
             for (int c : new int[] {0x660, 0x966, 0xff10, '0' + 256, '1' + 65280, 'p' + 256}) {
                 LetterRouter x = Scenes.row(1);
                 x.append('p');
@@ -183,7 +187,8 @@ final class LetterEdges {
     }
 
     private void arrive() {
-        String reads = "Reads the text buffer as a text of arrivals and makes the letters in their order, all or none of them.";
+        String reads = "Reads the text buffer as a text of arrivals and makes the letters in their order, all or "
+            + "none of them.";
         String emptied = "The buffer is emptied, also if an exception is thrown.";
         String returns = "Returns the number of letters.";
         e.test(20, reads, "all: the last place is for the last letter", () -> {
@@ -192,6 +197,14 @@ final class LetterEdges {
             e.is("letters", x.arrive(), 2);
             e.is("the first", note(x, 28), "p0w2?");
             e.is("the last", note(x, 29), "p0w3r?");
+        });
+        e.test(20, reads, "all numbers of the first and the last letter, with all parts and with none", () -> {
+            LetterRouter x = Scenes.row(16);
+            Scenes.pass(x, 365);
+            Scenes.type(x, "p0,p15w9r");
+            x.arrive();
+            numbers(x, 0, 0, 1, 0, 365, 0, -1, -1, 0, -1, -1, -1);
+            numbers(x, 1, 15, 9, 1, 365, 0, -1, -1, 0, -1, -1, -1);
         });
         e.test(20, reads, "none: there is a place for the first letter only", () -> {
             LetterRouter x = letters(29);
@@ -266,8 +279,8 @@ final class LetterEdges {
     }
 
     private void arriveRefused() {
-        String refused = "Throws `UnsupportedOperationException` if a letter is refused for reason 1 or 3; "
-            + "the reason is kept for refusal";
+        String refused = "Throws `UnsupportedOperationException` if a letter is refused for reason 1 or 3; the "
+            + "reason is kept for refusal";
         e.test(20, refused, "the 31st letter is", () -> {
             e.failsToArrive("p0", Edges.REFUSED, -1, "1", Scenes.FULL_READ);
             e.failsToArrive("p0,p0,p0", Edges.REFUSED, -1, "1", () -> letters(28));
@@ -398,11 +411,11 @@ final class LetterEdges {
     }
 
     private void letter() {
-        String what = "`what`: 0 for its person, 1 for its weight, 2 for 1 if it is registered and 0 if not, "
-            + "3 for the day on which it came, 4 for 0 if it waits, 1 if it was delivered and 2 if it was returned, "
-            + "5 for the day on which that was, 6 for the reason for which it was returned, 7 for its failed tries, "
-            + "8 for the house to which it was delivered, 9 for the person who signed it, "
-            + "10 for its number among all deliveries";
+        String what = "`what`: 0 for its person, 1 for its weight, 2 for 1 if it is registered and 0 if not, 3 for "
+            + "the day on which it came, 4 for 0 if it waits, 1 if it was delivered and 2 if it was returned, 5 "
+            + "for the day on which that was, 6 for the reason for which it was returned, 7 for its failed "
+            + "tries, 8 for the house to which it was delivered, 9 for the person who signed it, 10 for its "
+            + "number among all deliveries";
         e.test(23, "Returns a number of a letter.", "the first and the 30th letter", () -> {
             LetterRouter x = letters(30);
             e.is("the first", x.letter(0, 0), 0);
@@ -667,6 +680,33 @@ final class LetterEdges {
             e.is("two failed tries", x.daysLeft(0), 3);
             x.leave(0, 2, 365);
             e.is("three failed tries", x.daysLeft(0), 3);
+        });
+    }
+
+    private void daysLeftBehindHolds() {
+        String what = "Returns how many days it takes until a letter no longer waits, if nothing else is done.";
+        e.test(27, what, "days on hold are no tries: three tries behind three days", () -> {
+            LetterRouter x = Scenes.row(1);
+            x.addLetter(0, 1, true);
+            x.hold(0, 2);
+            x.leave(0, 0, 365);
+            e.is("days", x.daysLeft(0), 6);
+            x.pass(5);
+            e.is("waits", x.letter(0, 7), 2);
+            x.pass(1);
+            e.is("reason", x.letter(0, 6), 3);
+        });
+        e.test(27, what, "tries that were made count: two, then a hold to the day before the last", () -> {
+            LetterRouter x = Scenes.row(1);
+            x.addLetter(0, 1, true);
+            x.leave(0, 0, 365);
+            x.pass(2);
+            x.hold(0, 29);
+            e.is("the third try", x.daysLeft(0), 29);
+            x.hold(0, 30);
+            e.is("reason 4", x.daysLeft(0), 29);
+            x.hold(0, 28);
+            e.is("a day earlier", x.daysLeft(0), 28);
         });
     }
 

@@ -4,12 +4,15 @@ import java.util.function.Supplier;
 
 /**
  * All that an office answers, told by calls of the face alone: two offices with the same picture are in the same state.
- * Each part asks an object of its own, made anew: asking changes some of them, and none may be asked more than 512 times.
+ * Each part asks an object of its own, made anew: asking changes some of them, and none may be asked more than 512
+ * times.
  */
 final class Picture {
     static final String FAULT = "faultPosition";
     static final String REFUSAL = "refusal";
     static final String BUFFER = "buffer";
+
+    private static final int DAYS_OF_PART = 92;
 
     private interface Part {
         void tell(Picture p, LetterRouter x);
@@ -72,9 +75,10 @@ final class Picture {
         for (int i = 0; i < persons; i++) {
             int person = i;
             part("allowed by " + i, (p, x) -> p.allowed(x, person));
-            part("person " + i + ", first days", (p, x) -> p.days(x, person, 0, 122));
-            part("person " + i + ", days between", (p, x) -> p.days(x, person, 122, 244));
-            part("person " + i + ", last days", (p, x) -> p.days(x, person, 244, 367));
+            for (int d = 0; d <= 366; d += DAYS_OF_PART) {
+                int from = d;
+                part("person " + i + " from day " + d, (p, x) -> p.days(x, person, from));
+            }
         }
         for (int i = 0; i < letters; i += 10) {
             int from = i;
@@ -180,8 +184,8 @@ final class Picture {
         }
     }
 
-    private void days(LetterRouter x, int person, int from, int to) {
-        for (int d = from; d < to; d++) {
+    private void days(LetterRouter x, int person, int from) {
+        for (int d = from; d < Math.min(from + DAYS_OF_PART, 367); d++) {
             int day = d;
             ask(() -> x.way(person, day, 0));
             ask(() -> x.way(person, day, -1));

@@ -3,12 +3,13 @@ import java.util.function.Supplier;
 /** The boundaries of promises 8 to 17: redirects, ways, holds, limits, absences and signing. */
 final class RuleEdges {
     private static final String NO_PERSON = "Throws `IndexOutOfBoundsException` if there is no such person";
-    private static final String ONE_OF_HOUSES = "Throws `IndexOutOfBoundsException` if one of the houses does not exist";
+    private static final String ONE_OF_HOUSES = "Throws `IndexOutOfBoundsException` if one of the houses does not "
+        + "exist";
     private static final String NO_DAY = "Throws `IllegalArgumentException` if there is no such day";
-    private static final String DAYS =
-        "Throws `IllegalArgumentException` if the days are not in ascending order from 0 to 365";
-    private static final String REASON_1 =
-        "Throws `UnsupportedOperationException` if it is refused for reason 1; the reason is kept for refusal";
+    private static final String DAYS = "Throws `IllegalArgumentException` if the days are not in ascending order "
+        + "from 0 to 365";
+    private static final String REASON_1 = "Throws `UnsupportedOperationException` if it is refused for reason 1; "
+        + "the reason is kept for refusal";
     private static final Supplier<LetterRouter> LIVELY = Scenes.LIVELY;
     private static final Supplier<LetterRouter> FULL = Scenes.FULL;
     private static final Supplier<LetterRouter> EMPTY = Scenes.EMPTY;
@@ -67,7 +68,8 @@ final class RuleEdges {
             e.is("day 364", x.way(0, 364, 0), 0);
             e.is("day 365", x.way(0, 365, 0), 2);
         });
-        e.test(8, "Redirects the letters of a person.", "of the first person, and of the last one to the last house", () -> {
+        e.test(8, "Redirects the letters of a person.",
+            "of the first person, and of the last one to the last house", () -> {
             LetterRouter x = FULL.get();
             x.dropRedirect(0);
             x.dropRedirect(0);
@@ -157,7 +159,8 @@ final class RuleEdges {
             e.is("day 364", x.way(0, 364, -1), 0);
             e.is("day 365", x.way(0, 365, -1), 2);
         });
-        e.test(9, "Redirects the letters of a house.", "of the last house to the first one and of the first to the last", () -> {
+        e.test(9, "Redirects the letters of a house.",
+            "of the last house to the first one and of the first to the last", () -> {
             LetterRouter x = Scenes.row(16);
             x.redirectHouse(15, 0, 0, 5);
             x.redirectHouse(0, 15, 6, 365);
@@ -214,8 +217,8 @@ final class RuleEdges {
     }
 
     private void redirectHouseRefused() {
-        String refused =
-            "Throws `UnsupportedOperationException` if it is refused for reason 1 or 2; the reason is kept for refusal";
+        String refused = "Throws `UnsupportedOperationException` if it is refused for reason 1 or 2; the reason is "
+            + "kept for refusal";
         e.test(9, refused, "the 12th is kept, the 13th is refused for reason 1", () ->
             e.refuses("the 13th", 1, FULL, x -> x.redirectHouse(3, 5, 0, 0)));
         e.test(9, refused, "reason 1 ahead of reason 2", () ->
@@ -277,8 +280,8 @@ final class RuleEdges {
 
     private void dropRedirectThrows() {
         String index = "Throws `IndexOutOfBoundsException` if there is no such redirect";
-        String refused =
-            "Throws `UnsupportedOperationException` if it is refused for reason 2; the reason is kept for refusal";
+        String refused = "Throws `UnsupportedOperationException` if it is refused for reason 2; the reason is kept "
+            + "for refusal";
         e.test(10, index, "none is there", () ->
             e.rejects("redirect 0", Edges.INDEX, EMPTY, x -> x.dropRedirect(0)));
         e.test(10, index, "the first and the last one are there, those next to them are not", () -> {
@@ -482,11 +485,7 @@ final class RuleEdges {
         String returns = "Returns whether it was.";
         String allows = "Lets a person allow another one to sign, or no longer.";
         e.test(13, allows, "the first one the last one and the other way round", () -> {
-            LetterRouter x = new LetterRouter();
-            x.addHouse(0, 1);
-            for (int i = 0; i < 20; i++) {
-                x.addPerson(0);
-            }
+            LetterRouter x = Scenes.twentyAtHome();
             x.allow(0, 19, true);
             x.leave(0, 0, 0);
             e.is("19 for 0", x.signer(0, 0), 19);
@@ -504,11 +503,7 @@ final class RuleEdges {
             e.is("no longer", x.allow(0, 1, false), false);
         });
         e.test(13, returns, "all 19 others, each by itself", () -> {
-            LetterRouter x = new LetterRouter();
-            x.addHouse(0, 1);
-            for (int i = 0; i < 20; i++) {
-                x.addPerson(0);
-            }
+            LetterRouter x = Scenes.twentyAtHome();
             for (int other = 0; other < 20; other++) {
                 if (other != 7) {
                     e.is("at first " + other, x.allow(7, other, true), false);
@@ -663,7 +658,8 @@ final class RuleEdges {
 
     private void signer() {
         String returns = "Returns the person who would.";
-        e.test(16, "Returns who would sign a registered letter of a person on a day.", "the first and the last of all days", () -> {
+        e.test(16, "Returns who would sign a registered letter of a person on a day.",
+            "the first and the last of all days", () -> {
             LetterRouter x = new LetterRouter();
             x.addHouse(0, 1);
             x.addPerson(0);
@@ -677,11 +673,7 @@ final class RuleEdges {
             e.is("day 365", x.signer(1, 365), 0);
         });
         e.test(16, returns, "person 0 for person 19 and person 19 for person 0", () -> {
-            LetterRouter x = new LetterRouter();
-            x.addHouse(0, 1);
-            for (int i = 0; i < 20; i++) {
-                x.addPerson(0);
-            }
+            LetterRouter x = Scenes.twentyAtHome();
             x.leave(0, 1, 1);
             x.leave(19, 2, 2);
             x.allow(0, 19, true);
@@ -747,11 +739,7 @@ final class RuleEdges {
         });
         e.test(16, missing, "19 others live there, but none was allowed", () -> {
             Supplier<LetterRouter> twenty = () -> {
-                LetterRouter x = new LetterRouter();
-                x.addHouse(0, 1);
-                for (int i = 0; i < 20; i++) {
-                    x.addPerson(0);
-                }
+                LetterRouter x = Scenes.twentyAtHome();
                 x.leave(3, 0, 0);
                 return x;
             };

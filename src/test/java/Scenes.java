@@ -41,6 +41,16 @@ final class Scenes {
         return x;
     }
 
+    /** 20 persons who live in one house, which no walk serves. */
+    static LetterRouter twentyAtHome() {
+        LetterRouter x = new LetterRouter();
+        x.addHouse(0, 1);
+        for (int i = 0; i < 20; i++) {
+            x.addPerson(0);
+        }
+        return x;
+    }
+
     static void pass(LetterRouter x, int days) {
         for (int left = days; left > 0; left -= 60) {
             x.pass(Math.min(left, 60));

@@ -39,17 +39,9 @@ final class TermEdges {
         return x;
     }
 
-    /** 20 persons who live in one house. */
-    private static LetterRouter twentyAtHome() {
-        LetterRouter x = houses(1);
-        for (int i = 0; i < 20; i++) {
-            x.addPerson(0);
-        }
-        return x;
-    }
-
     private void calls() {
-        String most = "An object is used for at most 512 calls after it has been made; what later calls answer is free.";
+        String most = "An object is used for at most 512 calls after it has been made; what later calls answer is "
+            + "free.";
         e.test(TERMS, most, "the 511th and the 512th call, behind changes that were undone", () -> {
             LetterRouter x = new LetterRouter();
             for (int i = 0; i < 255; i++) {
@@ -117,8 +109,8 @@ final class TermEdges {
     }
 
     private void housesAndPersons() {
-        String houses = "At most 16 houses are made, numbered from 0, each with a street from 0 to 4 and a house number "
-            + "from 1 to 99; no two have the same of both.";
+        String houses = "At most 16 houses are made, numbered from 0, each with a street from 0 to 4 and a house "
+            + "number from 1 to 99; no two have the same of both.";
         String persons = "At most 20 persons are made, numbered from 0; a person lives in a house.";
         e.test(TERMS, houses, "16 are made, numbered 0 to 15, a 17th is not", () -> {
             LetterRouter x = new LetterRouter();
@@ -168,9 +160,9 @@ final class TermEdges {
 
     private void walks() {
         String most = "At most 10 walks are made, numbered from 0.";
-        String walk = "A walk has a street, a side, 0 for even house numbers, 1 for odd ones and 2 for both, a direction, "
-            + "0 for ascending house numbers and 1 for descending ones, and a first and a last house number, "
-            + "the first one not greater than the last one.";
+        String walk = "A walk has a street, a side, 0 for even house numbers, 1 for odd ones and 2 for both, a "
+            + "direction, 0 for ascending house numbers and 1 for descending ones, and a first and a last house "
+            + "number, the first one not greater than the last one.";
         e.test(TERMS, most, "10 are made, numbered 0 to 9, an 11th is not", () -> {
             LetterRouter x = new LetterRouter();
             for (int i = 1; i <= 10; i++) {
@@ -213,8 +205,8 @@ final class TermEdges {
     }
 
     private void walkServes() {
-        String serves = "It serves the houses of its street and side whose house numbers are from the first to the last "
-            + "one, if no walk with a lower number serves them.";
+        String serves = "It serves the houses of its street and side whose house numbers are from the first to the "
+            + "last one, if no walk with a lower number serves them.";
         String later = "Walks serve houses that are made later, too.";
         e.test(TERMS, serves, "the first and the last number, and those next to them", () -> {
             LetterRouter x = houses(9, 10, 20, 21);
@@ -307,8 +299,8 @@ final class TermEdges {
     }
 
     private void redirectNumbers() {
-        String most = "At most 12 redirects are kept, numbered from 0; when one is dropped, the numbers of the later ones "
-            + "decrease by 1.";
+        String most = "At most 12 redirects are kept, numbered from 0; when one is dropped, the numbers of the later "
+            + "ones decrease by 1.";
         e.test(TERMS, most, "12 are kept, numbered 0 to 11, a 13th is not", () -> {
             LetterRouter x = Scenes.row(2);
             for (int i = 0; i < 12; i++) {
@@ -340,12 +332,28 @@ final class TermEdges {
             e.is("the 11th", x.way(0, 10, 0), 1);
             e.is("the number again", x.redirectPerson(0, 1, 11, 11), 11);
         });
+        e.test(TERMS, most, "one of a person is dropped ahead of one of a house, and the other way round", () -> {
+            LetterRouter x = Scenes.row(4);
+            x.redirectPerson(3, 0, 1, 9);
+            x.redirectHouse(1, 2, 2, 8);
+            x.redirectPerson(1, 3, 3, 7);
+            x.dropRedirect(0);
+            e.is("person 3 is at home", x.way(3, 5, -1), 3);
+            e.is("house 1 leads to 2", x.way(1, 2, -1), 2);
+            e.is("person 1 to 3", x.way(1, 3, -1), 3);
+            e.is("up to its last day", x.way(1, 8, -1), 2);
+            x.dropRedirect(0);
+            e.is("house 1 leads nowhere", x.way(1, 2, -1), 1);
+            e.is("person 1 still to 3", x.way(1, 7, -1), 3);
+            e.is("and not beyond", x.way(1, 8, -1), 1);
+        });
     }
 
     private void redirectDays() {
-        String holds = "A redirect is of a person or of a house, leads to a house, and holds from a first to a last day.";
-        String greatest = "Of several of the same person, or of the same house, that hold on a day, "
-            + "the one with the greatest number counts.";
+        String holds = "A redirect is of a person or of a house, leads to a house, and holds from a first to a last "
+            + "day.";
+        String greatest = "Of several of the same person, or of the same house, that hold on a day, the one with the "
+            + "greatest number counts.";
         e.test(TERMS, holds, "of a person: on its first and its last day, and not next to them", () -> {
             LetterRouter x = Scenes.row(2);
             x.redirectPerson(0, 1, 100, 200);
@@ -409,9 +417,9 @@ final class TermEdges {
     }
 
     private void ways() {
-        String way = "The way of a person on a day begins with the house to which the redirect of the person leads, or with "
-            + "the house in which the person lives if there is none, and goes on with the house to which the redirect of "
-            + "this house leads, and so on; its end is the first house without a redirect.";
+        String way = "The way of a person on a day begins with the house to which the redirect of the person leads, "
+            + "or with the house in which the person lives if there is none, and goes on with the house to which "
+            + "the redirect of this house leads, and so on; its end is the first house without a redirect.";
         String lives = "A person who is redirected lives in the same house as before.";
         e.test(TERMS, way, "one house", () -> {
             LetterRouter x = Scenes.row(1);
@@ -463,8 +471,8 @@ final class TermEdges {
     }
 
     private void round() {
-        String round = "No redirects may lead round: on no day from 0 to 365 may there be a house from which one comes to "
-            + "this house again, from redirect to redirect of houses.";
+        String round = "No redirects may lead round: on no day from 0 to 365 may there be a house from which one "
+            + "comes to this house again, from redirect to redirect of houses.";
         e.test(TERMS, round, "two houses, on each single day", () -> {
             for (int day : new int[] {0, 1, 364, 365}) {
                 LetterRouter x = Scenes.row(2);
@@ -508,6 +516,20 @@ final class TermEdges {
             e.fails("a day longer", Edges.REFUSED, x, y -> y.redirectHouse(1, 0, 200, 201));
             e.fails("a day earlier", Edges.REFUSED, x, y -> y.redirectHouse(1, 0, 199, 200));
         });
+        e.test(TERMS, round, "it opens behind one cover and closes ahead of the next one", () -> {
+            LetterRouter x = Scenes.row(3);
+            x.redirectHouse(0, 1, 0, 365);
+            x.redirectHouse(0, 2, 0, 50);
+            x.redirectHouse(0, 2, 52, 365);
+            e.fails("a single day is open", Edges.REFUSED, x, y -> y.redirectHouse(1, 0, 0, 365));
+            e.is("reason", x.refusal(), 2);
+            x.redirectHouse(0, 2, 51, 51);
+            e.is("none is open", x.redirectHouse(1, 0, 0, 365), 4);
+            e.fails("the cover of the single day", Edges.REFUSED, x, y -> y.dropRedirect(3));
+            e.fails("the cover from day 0", Edges.REFUSED, x, y -> y.dropRedirect(1));
+            e.fails("the cover to day 365", Edges.REFUSED, x, y -> y.dropRedirect(2));
+            e.is("what is covered", x.dropRedirect(0), 4);
+        });
         e.test(TERMS, round, "redirects of persons are none of houses", () -> {
             LetterRouter x = Scenes.row(2);
             x.redirectHouse(0, 1, 0, 365);
@@ -518,8 +540,8 @@ final class TermEdges {
     }
 
     private void roundInDoubt() {
-        String itself = "A redirect of a house to itself leads round; "
-            + "one of a person to the house in which the person lives is possible.";
+        String itself = "A redirect of a house to itself leads round; one of a person to the house in which the "
+            + "person lives is possible.";
         String over = "Redirects may not lead round on days that are over, either.";
         String ascending = "Days are in ascending order also if both are the same.";
         e.test(TERMS, itself, "the first and the last house, on a single day", () -> {
@@ -646,7 +668,7 @@ final class TermEdges {
             e.is("pushed out", x.signer(0, 5), 0);
         });
         e.test(TERMS, together, "20 persons have one each", () -> {
-            LetterRouter x = twentyAtHome();
+            LetterRouter x = Scenes.twentyAtHome();
             for (int i = 0; i < 20; i++) {
                 e.is("kept", x.leave(i, 3, 3), i + 1);
             }
@@ -661,9 +683,11 @@ final class TermEdges {
     }
 
     private void signing() {
-        String can = "A registered letter can be signed on a day by its person, or by a person whom that one has allowed and "
-            + "who lives in the house at the end of the way; nobody who is absent on this day can sign.";
-        String lowest = "The person signs if that is possible, and otherwise the one with the lowest number of those who can.";
+        String can = "A registered letter can be signed on a day by its person, or by a person whom that one has "
+            + "allowed and who lives in the house at the end of the way; nobody who is absent on this day can "
+            + "sign.";
+        String lowest = "The person signs if that is possible, and otherwise the one with the lowest number of those "
+            + "who can.";
         String wherever = "The person can sign wherever it lives.";
         e.test(TERMS, can, "at the end of the way, not where it begins or on the way", () -> {
             LetterRouter x = Scenes.row(4);
@@ -679,7 +703,7 @@ final class TermEdges {
             e.is("the end on day 9", x.signer(0, 9), 1);
         });
         e.test(TERMS, can, "on the day ahead of an absence and on the day behind it", () -> {
-            LetterRouter x = twentyAtHome();
+            LetterRouter x = Scenes.twentyAtHome();
             x.leave(0, 0, 365);
             x.allow(0, 1, true);
             x.leave(1, 10, 20);
@@ -689,7 +713,7 @@ final class TermEdges {
             e.is("day 21", x.signer(0, 21), 1);
         });
         e.test(TERMS, can, "whom another has allowed, or who has allowed the person, cannot", () -> {
-            LetterRouter x = twentyAtHome();
+            LetterRouter x = Scenes.twentyAtHome();
             x.leave(0, 0, 365);
             x.allow(1, 2, true);
             x.allow(2, 0, true);
@@ -698,7 +722,7 @@ final class TermEdges {
             e.fails("allowance goes no further", Edges.MISSING, x, y -> y.signer(0, 0));
         });
         e.test(TERMS, lowest, "the person with the greatest number signs ahead of all others", () -> {
-            LetterRouter x = twentyAtHome();
+            LetterRouter x = Scenes.twentyAtHome();
             for (int other = 0; other < 19; other++) {
                 x.allow(19, other, true);
             }
