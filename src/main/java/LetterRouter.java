@@ -544,10 +544,13 @@ public final class LetterRouter {
         }
 
         boolean hasAllowed(int person, int other) {
-            return (allowed[person] & (1 << other)) != 0;
+            return isBelow(person, count) && (allowed[person] & (1 << other)) != 0;
         }
 
         void setAllowed(int person, int other, boolean isAllowed) {
+            if (!isBelow(person, count)) {
+                return;
+            }
             if (isAllowed) {
                 allowed[person] |= 1 << other;
             } else {
@@ -895,7 +898,10 @@ public final class LetterRouter {
         }
     }
 
-    /** All that undo and restore bring back. */
+    /**
+     * All that undo and restore bring back. A number that one row holds of another row (a home, a target, the person of
+     * a letter) is tested before it is used as an index, although none is stored that is not there.
+     */
     private static final class Office {
         final Houses houses = new Houses();
         final Persons persons = new Persons();
@@ -918,6 +924,9 @@ public final class LetterRouter {
         }
 
         int walkServing(int house) {
+            if (!isBelow(house, houses.count)) {
+                return NONE;
+            }
             return walks.lowestFor(houses.street[house], houses.number[house]);
         }
 
@@ -955,6 +964,9 @@ public final class LetterRouter {
         }
 
         int startOfWay(int person, int onDay) {
+            if (!isBelow(person, persons.count)) {
+                return NONE;
+            }
             int house = redirects.targetOf(OF_PERSON, person, onDay, NONE);
             return house == NONE ? persons.home[person] : house;
         }
@@ -1009,7 +1021,7 @@ public final class LetterRouter {
         /** What a day does to a waiting letter, apart from its age. */
         int outcome(int letter, int onDay) {
             int person = letters.person[letter];
-            if (persons.heldUntil[person] >= onDay) {
+            if (!isBelow(person, persons.count) || persons.heldUntil[person] >= onDay) {
                 return LEFT;
             }
             if (walkServing(endOfWay(person, onDay)) == NONE) {
@@ -1096,6 +1108,9 @@ public final class LetterRouter {
         }
 
         private void handOver(int letter) {
+            if (!isBelow(letter, letters.count)) {
+                return;
+            }
             int person = letters.person[letter];
             int signing = letters.registered[letter] == 1 ? whoSigns(person, day) : NONE;
             letters.deliver(letter, day, endOfWay(person, day), signing);

@@ -756,7 +756,7 @@ final class DeliveryEdges {
     }
 
     /** One call of each kind that is a change, in the order of the sentence that names them. */
-    private static final Edges.Act[] CHANGES = {x -> x.addHouse(2, 2), x -> x.addPerson(2),
+    static final Edges.Act[] CHANGES = {x -> x.addHouse(2, 2), x -> x.addPerson(2),
         x -> x.addWalk(4, 2, 0, 1, 99), x -> x.redirectPerson(1, 0, 0, 365), x -> x.redirectHouse(3, 1, 0, 0),
         x -> x.dropRedirect(1), x -> x.hold(0, 365), x -> x.allow(1, 0, true), x -> x.setLimit(0, 0),
         x -> x.leave(2, 0, 365), x -> x.addLetter(0, 9, true), DeliveryEdges::arrive, x -> x.pass(60)};

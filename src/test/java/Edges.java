@@ -107,6 +107,11 @@ final class Edges {
         compare(what, Picture.of(got), pictureOf(want));
     }
 
+    /** Alike but for what does not belong to the office: changes that are kept, text, fault position and reason. */
+    void sameOffice(String what, Supplier<LetterRouter> got, Supplier<LetterRouter> want) {
+        compare(what, Picture.ofOffice(got), Picture.ofOffice(want));
+    }
+
     private static Supplier<LetterRouter> afterwards(Supplier<LetterRouter> scene, Act act) {
         return () -> {
             LetterRouter x = scene.get();

@@ -16,6 +16,7 @@ public final class EdgesTest {
         RuleEdges.addTo(e);
         LetterEdges.addTo(e);
         DayEdges.addTo(e);
+        CrossEdges.addTo(e);
         e.run();
         e.checkQuotes(Path.of(args.length > 0 ? args[0] : DOCUMENT));
         if (e.finish("EdgesTest") > 0) {

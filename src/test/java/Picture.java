@@ -1,5 +1,6 @@
 import java.util.LinkedHashMap;
 import java.util.Map;
+import java.util.Set;
 import java.util.function.Supplier;
 
 /**
@@ -10,7 +11,10 @@ import java.util.function.Supplier;
 final class Picture {
     static final String FAULT = "faultPosition";
     static final String REFUSAL = "refusal";
-    static final String BUFFER = "buffer";
+    private static final String BUFFER = "buffer";
+    private static final String ROOM = "room in the buffer";
+    private static final String UNDONE = "undone ";
+    private static final Set<String> LEFT = Set.of(FAULT, REFUSAL, BUFFER, ROOM);
 
     private static final int DAYS_OF_PART = 92;
 
@@ -43,6 +47,13 @@ final class Picture {
         return p.parts;
     }
 
+    /** Without what undo and restore leave, and without the changes that can be undone. */
+    static Map<String, String> ofOffice(Supplier<LetterRouter> scene) {
+        Map<String, String> parts = of(scene);
+        parts.keySet().removeIf(name -> name.startsWith(UNDONE) || LEFT.contains(name));
+        return parts;
+    }
+
     private void part(String name, Part told) {
         out = new StringBuilder();
         told.tell(this, scene.get());
@@ -63,7 +74,7 @@ final class Picture {
         part(FAULT, (p, x) -> p.ask(x::faultPosition));
         part(REFUSAL, (p, x) -> p.ask(x::refusal));
         part(BUFFER, Picture::buffer);
-        part("room in the buffer", Picture::room);
+        part(ROOM, Picture::room);
         for (int s = 0; s < 5; s++) {
             int street = s;
             part("houses of street " + s, (p, x) -> p.housesOf(x, street));
@@ -91,7 +102,7 @@ final class Picture {
         }
         for (int i = 0; i <= 9; i++) {
             int times = i;
-            part("undone " + i + " times", (p, x) -> p.undone(x, times));
+            part(UNDONE + i + " times", (p, x) -> p.undone(x, times));
         }
         part("restored", Picture::restored);
         part("days to come", Picture::daysToCome);
