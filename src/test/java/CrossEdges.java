@@ -255,12 +255,7 @@ final class CrossEdges {
     }
 
     private void signing() {
-        String note = "The note of a letter is a text: \"p\" and its person, \"w\" and its weight, and \"r\" if it "
-            + "is registered; then \"?\" if it waits, \">\" and the house if it was delivered, with \"/\" and "
-            + "the person who signed it if it is registered, or \"<\" and the reason if it was returned; then "
-            + "\"@\" and the day on which that was, unless it waits; and at last \"x\" and its failed tries, if "
-            + "there were any.";
-        e.test(TERMS, note, "person, weight, house, who signed it, day and tries all differ", () -> {
+        e.test(TERMS, DeliveryEdges.NOTE, "person, weight, house, who signed it, day and tries all differ", () -> {
             LetterRouter x = CROSSED.get();
             x.pass(6);
             x.leave(3, 0, 365);
@@ -296,12 +291,7 @@ final class CrossEdges {
     }
 
     private void deliveries() {
-        String what = "`what`: 0 for its person, 1 for its weight, 2 for 1 if it is registered and 0 if not, 3 for "
-            + "the day on which it came, 4 for 0 if it waits, 1 if it was delivered and 2 if it was returned, 5 "
-            + "for the day on which that was, 6 for the reason for which it was returned, 7 for its failed "
-            + "tries, 8 for the house to which it was delivered, 9 for the person who signed it, 10 for its "
-            + "number among all deliveries";
-        e.test(23, what, "the house where the way ends on the day of the delivery, and on no other day", () -> {
+        e.test(23, LetterEdges.WHAT, "the house where the way ends on that day, and on no other one", () -> {
             LetterRouter x = CROSSED.get();
             x.pass(4);
             x.redirectPerson(3, 2, 5, 5);
@@ -322,10 +312,7 @@ final class CrossEdges {
     }
 
     private void deliveryOrder() {
-        String order = "The letters that are delivered on a day are delivered in the order of their walks, of the "
-            + "same walk in that of its stops, and at the same stop in that of their weights, the heaviest first, "
-            + "and of the same weight in that of their numbers.";
-        e.test(TERMS, order, "walk 1 with its first stop behind walk 0 with its 15th", () -> {
+        e.test(TERMS, DeliveryEdges.ORDER, "walk 1 with its first stop behind walk 0 with its 15th", () -> {
             LetterRouter x = new LetterRouter();
             x.addHouse(1, 1);
             for (int i = 1; i <= 15; i++) {
@@ -341,7 +328,7 @@ final class CrossEdges {
             e.is("first", x.delivered(0), 1);
             e.is("second", x.delivered(1), 0);
         });
-        e.test(TERMS, order, "the heaviest of the last letters behind the lightest of an earlier stop", () -> {
+        e.test(TERMS, DeliveryEdges.ORDER, "the heaviest of a late stop behind the lightest of an early one", () -> {
             LetterRouter x = CROSSED.get();
             int[] persons = {0, 5, 1, 2, 3, 2};
             int[] weights = {1, 9, 2, 1, 2, 1};

@@ -2,10 +2,16 @@ import java.util.function.Supplier;
 
 /** The boundaries that the terms name: letters, days that go by, order, notes, texts, reasons, changes, exceptions. */
 final class DeliveryEdges {
-    private static final String ORDER =
+    static final String ORDER =
         "The letters that are delivered on a day are delivered in the order of their walks, of the same walk in "
         + "that of its stops, and at the same stop in that of their weights, the heaviest first, and of the same "
         + "weight in that of their numbers.";
+    static final String NOTE =
+        "The note of a letter is a text: \"p\" and its person, \"w\" and its weight, and \"r\" if it "
+        + "is registered; then \"?\" if it waits, \">\" and the house if it was delivered, with \"/\" and "
+        + "the person who signed it if it is registered, or \"<\" and the reason if it was returned; then "
+        + "\"@\" and the day on which that was, unless it waits; and at last \"x\" and its failed tries, if "
+        + "there were any.";
     private static final Supplier<LetterRouter> LIVELY = Scenes.LIVELY;
     private static final Supplier<LetterRouter> FULL = Scenes.FULL;
     private static final int TERMS = Edges.TERMS;
@@ -454,14 +460,9 @@ final class DeliveryEdges {
     }
 
     private void notes() {
-        String note = "The note of a letter is a text: \"p\" and its person, \"w\" and its weight, and \"r\" if it "
-            + "is registered; then \"?\" if it waits, \">\" and the house if it was delivered, with \"/\" and "
-            + "the person who signed it if it is registered, or \"<\" and the reason if it was returned; then "
-            + "\"@\" and the day on which that was, unless it waits; and at last \"x\" and its failed tries, if "
-            + "there were any.";
         String zeros = "Numbers are written without zeros in front.";
         String stand = "Failed tries stand in the notes of letters that do not wait, too.";
-        e.test(TERMS, note, "one that waits: without and with a try", () -> {
+        e.test(TERMS, NOTE, "one that waits: without and with a try", () -> {
             LetterRouter x = Scenes.row(1);
             x.leave(0, 0, 365);
             x.addLetter(0, 9, true);
@@ -471,7 +472,7 @@ final class DeliveryEdges {
             x.pass(1);
             e.is("with two", note(x, 0), "p0w9r?x2");
         });
-        e.test(TERMS, note, "one that was delivered: registered or not, without and with a try", () -> {
+        e.test(TERMS, NOTE, "one that was delivered: registered or not, without and with a try", () -> {
             LetterRouter x = Scenes.row(2);
             x.addLetter(0, 1, false);
             x.addLetter(0, 1, true);
@@ -482,7 +483,7 @@ final class DeliveryEdges {
             e.is("registered", note(x, 1), "p0w1r>0/0@0");
             e.is("registered with a try", note(x, 2), "p1w2r>1/1@1x1");
         });
-        e.test(TERMS, note, "one that was returned: for each reason, registered or not", () -> {
+        e.test(TERMS, NOTE, "one that was returned: for each reason, registered or not", () -> {
             LetterRouter x = Scenes.row(2);
             x.addHouse(1, 1);
             x.addPerson(2);

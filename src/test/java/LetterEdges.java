@@ -3,6 +3,12 @@ import java.util.function.Supplier;
 /** The boundaries of promises 18 to 27: letters, texts of arrivals, notes, deliveries and forecasts. */
 final class LetterEdges {
     private static final String NO_LETTER = "Throws `IndexOutOfBoundsException` if there is no such letter";
+    static final String WHAT =
+        "`what`: 0 for its person, 1 for its weight, 2 for 1 if it is registered and 0 if not, 3 for "
+        + "the day on which it came, 4 for 0 if it waits, 1 if it was delivered and 2 if it was returned, 5 "
+        + "for the day on which that was, 6 for the reason for which it was returned, 7 for its failed "
+        + "tries, 8 for the house to which it was delivered, 9 for the person who signed it, 10 for its "
+        + "number among all deliveries";
     private static final Supplier<LetterRouter> LIVELY = Scenes.LIVELY;
     private static final Supplier<LetterRouter> FULL = Scenes.FULL;
     private static final Supplier<LetterRouter> EMPTY = Scenes.EMPTY;
@@ -411,24 +417,19 @@ final class LetterEdges {
     }
 
     private void letter() {
-        String what = "`what`: 0 for its person, 1 for its weight, 2 for 1 if it is registered and 0 if not, 3 for "
-            + "the day on which it came, 4 for 0 if it waits, 1 if it was delivered and 2 if it was returned, 5 "
-            + "for the day on which that was, 6 for the reason for which it was returned, 7 for its failed "
-            + "tries, 8 for the house to which it was delivered, 9 for the person who signed it, 10 for its "
-            + "number among all deliveries";
         e.test(23, "Returns a number of a letter.", "the first and the 30th letter", () -> {
             LetterRouter x = letters(30);
             e.is("the first", x.letter(0, 0), 0);
             e.is("the 30th", x.letter(29, 4), 0);
         });
-        e.test(23, what, "all of one that waits behind two tries", () -> {
+        e.test(23, WHAT, "all of one that waits behind two tries", () -> {
             LetterRouter x = Scenes.row(16);
             x.addLetter(15, 9, true);
             x.leave(15, 0, 365);
             x.pass(2);
             numbers(x, 0, 15, 9, 1, 0, 0, -1, -1, 2, -1, -1, -1);
         });
-        e.test(23, what, "all of those that were delivered on the last day that goes by", () -> {
+        e.test(23, WHAT, "all of those that were delivered on the last day that goes by", () -> {
             LetterRouter x = Scenes.row(16);
             Scenes.pass(x, 364);
             x.addLetter(15, 9, true);
@@ -437,7 +438,7 @@ final class LetterEdges {
             numbers(x, 0, 15, 9, 1, 364, 1, 364, -1, 0, 15, 15, 1);
             numbers(x, 1, 0, 1, 0, 364, 1, 364, -1, 0, 0, -1, 0);
         });
-        e.test(23, what, "all of those that were returned, for each reason", () -> {
+        e.test(23, WHAT, "all of those that were returned, for each reason", () -> {
             LetterRouter x = Scenes.row(3);
             x.addHouse(1, 1);
             x.addPerson(3);
